@@ -77,6 +77,7 @@ public final class BookTest {
         Check.dueBook(x, to400, 0, -1, 0);
         fault(to400 + " ", 400, 1);
         fault(to400 + "?", 400, 1);
+        fault(to400 + "xyz rests;", 400, 1);
         fault(to400.substring(0, 398) + "hour 1;", 400, 1);
         fault(to400.substring(0, 398) + "hours 1;", 398, 3);
         fault(to400.substring(0, 398) + "abcdefgh;", 398, 1);

@@ -125,6 +125,8 @@ public final class TellingTest {
         for (int wrong : new int[] {0, 61, -1, Integer.MIN_VALUE}) {
             Check.due("drawn(" + wrong + ", 1)", x.drawn(wrong, 1), -1);
         }
+        Check.due("drawn(1, 3)", x.drawn(1, 3), 1);
+        Check.due("undo()", x.undo(), 0);
         for (int k = 0; k < 6; k++) {
             Check.due("drawn(60, 3)", x.drawn(60, 3), 60);
         }

@@ -101,6 +101,7 @@ public final class TextTest {
         Check.due("HIGH", x.count(1), 7);
         Check.due("downs() of nothing", x.downs(), 0);
         Check.due("WIDE", x.count(0), 6);
+        Check.due("HIGH", x.count(1), 6);
     }
 
     private static void tokens() {

@@ -170,6 +170,8 @@ public final class WaysTest {
         dueTracks(x, -1, 0, 0, 0);
         dueTracks(x, -1, 0, 0, 0, 0, 0);
         dueTracks(x, -1, 5, 0, 5, 0);
+        dueTracks(x, -1, 5, 0, 4, 0);
+        dueTracks(x, -1, 0, 2, 0, 3);
         dueTracks(x, -1, 0, 3, 0, 3);
         dueTracks(x, -1, 0, 0, 0, 0, 255, 0);
         dueTracks(x, 191102976, 4, 2, 4, 2, 4, 2, 4, 2, 4, 2, 4, 2, 4, 2);
