@@ -4,11 +4,13 @@ import java.util.function.IntSupplier;
 /** What the project's tests share: putting texts on the tape and telling which answers are not due. */
 final class Check {
     static int wrong = 0;
+    static int asked = 0;
 
     private Check() {
     }
 
     static void due(String call, int got, int want) {
+        asked++;
         if (got != want) {
             wrong++;
             System.out.println(call + " answered " + got + ", due is " + want);
@@ -20,6 +22,7 @@ final class Check {
     }
 
     static void dueThrow(String call, IntSupplier what) {
+        asked++;
         try {
             int got = what.getAsInt();
             wrong++;
