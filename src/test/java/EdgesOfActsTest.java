@@ -61,6 +61,8 @@ public final class EdgesOfActsTest {
             Check.due("end(0)", x.end(0), true);
             Check.due("end(1)", x.end(1), false);
             Check.due("said(-1)", x.said(-1), -1);
+            Check.due("undo()", new CartTurns().undo(), -1);
+            Check.due("the tape is the DOWNS", x.downs(), 0);
         });
     }
 
@@ -203,6 +205,9 @@ public final class EdgesOfActsTest {
             row("point 1", what -> x.point(1, what), 0, 0, 1, 0, -1);
             alwaysNone("point, what 3", 2, q -> x.point(q, 3));
             alwaysNone("point 0, what", 4, what -> x.point(0, what));
+            Check.dueDowns(x, "person a 0 0 0 1;person b 1 0 0 1;person c 2 0 0 1;person d 3 0 0 1;person e 4 0 0 1;"
+                + "point p 0 0 0;point q 1 0 0;point r 2 0 0;point s 3 0 0;point t 4 0 0;", 10, 0);
+            row("for whom, of five", q -> x.point(q, 3), 1, 2, 4, 8, 16, -1);
         });
         Edge.of("Of a cell: 0 its wall (0: none), 1 who is there (NONE), 2 POINTS that are there, as bits. NONE, too: no such ones.", () -> {
             CartTurns x = Check.on("downs 3 2;wall 2 1 9;person a 0 1 0 1;point p 2 1 0;point q 0 0 0;point r 2 1 3;");
@@ -227,6 +232,11 @@ public final class EdgesOfActsTest {
             row("now", x::now, 0, 0, 1, 0, 2, 16, 17, 181, -1);
             alwaysNone("now", 8, x::now);
             Check.due("without POINTS all are settled", Check.on("person a 0 0 0 1;person b 1 1 1 1;").now(5), 3);
+            // those who were told on other DOWNS are gone
+            Check.dueDowns(x, "person a 5 5 1 7;", 1, 0);
+            row("now", x::now, 0, 0, 0, 0, 0, 1, 0, 7);
+            Check.dueDowns(x, "", 0, 0);
+            row("now", x::now, 0, 0, 0, 0, 0, 0, 0, 0);
         });
     }
 

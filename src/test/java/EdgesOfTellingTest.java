@@ -16,6 +16,7 @@ public final class EdgesOfTellingTest {
         booksLived();
         told();
         sentences();
+        joined();
         whatMayBeSaid();
         said();
         images();
@@ -73,6 +74,12 @@ public final class EdgesOfTellingTest {
         Edge.of("LEAST; NONE: there are no PERSONS.", () -> {
             Check.due("nobody", new CartTurns().least(), -1);
             Check.due("one", Check.on("person a 0 0 0 1;").least(), 0);
+            CartTurns x = Check.on("person a 0 0 0 9;person b 1 0 0 9;person c 2 0 0 9;person d 3 0 0 9;person e 4 0 0 9;figure f 0 0;");
+            x.say(4, 0, 0);
+            Check.due("the last of five", x.least(), 4);
+            Check.dueDowns(x, "person a 0 0 0 9;person b 1 0 0 9;person c 2 0 0 9;person d 3 0 0 9;figure f 0 0;", 5, 0);
+            x.say(3, 0, 0);
+            Check.due("the last of four", x.least(), 3);
             Check.due("nobody, but more", Check.on("figure f 0 0;point p 0 0 0;wall 0 0 1;").least(), -1);
         });
     }
@@ -409,8 +416,40 @@ public final class EdgesOfTellingTest {
             Check.dueSentence(x, "number=0 or", -12, 1);
             Check.dueSentence(x, "number=0 or has z", -17, 3);
             Check.due("it stays", x.said(-1), 0);
+            Check.dueSentence(x, "not number=1", 2, 0);
+            Check.due("the other one", x.said(0), 0);
             Check.dueSentence(x, "number=1", 1, 0);
             Check.due("another one", x.said(0), 1);
+            Check.due("nothing of the longer one ahead", x.said(-1), 1);
+        });
+    }
+
+    /** All that a SENTENCE may hold is reckoned, the last ONE, too. */
+    private static void dueJoined(String sentence, int... who) {
+        CartTurns x = Check.on("person a 0 0 0 1;person b 1 0 1 1;person c 2 0 2 1;");
+        Check.put(x, sentence);
+        Check.due("ONES of " + sentence, x.sentence() > 0, true);
+        Check.due("how many: " + sentence, x.said(-1), who.length);
+        row(sentence, x::said, who);
+    }
+
+    private static void joined() {
+        Edge.of("COND: ALL { 'or' ALL }. ALL: ONE { 'and' ONE }.", () -> {
+            dueJoined("number=0 and up=0", 0);
+            dueJoined("number=0 and up=1");
+            dueJoined("number=0 or up=1", 0, 1);
+            dueJoined("number=0 or number=1 and up=2", 0);
+            dueJoined("number=1 and up=2 or number=0", 0);
+            dueJoined("(number=0 or number=1)and up=1", 1);
+            dueJoined("not number=0 and up=1", 1);
+            dueJoined("not(number=0 and up=1)", 0, 1, 2);
+            dueJoined("not number=0 or up=0", 0, 1, 2);
+            dueJoined("not not up=1", 1);
+            dueJoined("not ".repeat(7) + "up=1", 0, 2);
+            dueJoined("(".repeat(7) + "up=1" + ")".repeat(7), 1);
+            dueJoined("up=9 or ".repeat(19) + "up=2", 2);
+            dueJoined("up<9 and ".repeat(19) + "up=2", 2);
+            dueJoined("up<9 and up=0 or ".repeat(9) + "up<9 and up=2", 0, 2);
         });
     }
 

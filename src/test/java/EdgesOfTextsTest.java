@@ -154,6 +154,10 @@ public final class EdgesOfTextsTest {
             good("wall 5 5 1;", 1);
             fault("wall 6 5 1;", 5, 2);
             fault("wall 5 6 1;", 7, 2);
+            CartTurns x = Check.on("downs 9 2;");
+            Check.dueDowns(x, "wall 5 5 1;", 1, 0);
+            Check.due("WIDE", x.count(0), 6);
+            Check.due("HIGH", x.count(1), 6);
         });
     }
 
@@ -263,6 +267,15 @@ public final class EdgesOfTextsTest {
             fault(figures + "figure r 0 0;", figures.length(), 4);
             fault(persons + "person r 5 5 0 1;", persons.length(), 4);
             fault(points + "point r 5 5 0;", points.length(), 4);
+            // those of a text that had a FAULT count for none
+            CartTurns y = new CartTurns();
+            for (int k = 0; k < 2; k++) {
+                Check.dueDowns(y, figures + persons + points + "wall 5 5 5;?", -1 - figures.length() - persons.length()
+                    - points.length() - 11, 1);
+                Check.dueDowns(y, figures + points + persons + "wall 5 5 5;", 17, 0);
+            }
+            Check.due("POINTS", y.count(4), 5);
+            Check.due("walls", y.now(1), 5);
         });
     }
 
@@ -374,6 +387,8 @@ public final class EdgesOfTextsTest {
         Edge.of("20 ONES, 8 within one another.", () -> {
             goodSentence("spent" + " or up=1".repeat(19), 20);
             sentenceFault("spent" + " or up=1".repeat(20), 5 + 19 * 8 + 4, 4);
+            goodSentence("spent" + " and up=1".repeat(19), 20);
+            sentenceFault("spent" + " and up=1".repeat(20), 5 + 19 * 9 + 5, 4);
             goodSentence("not up=1" + " or up=1".repeat(18), 20);
             sentenceFault("not up=1" + " or up=1".repeat(19), 8 + 18 * 8 + 4, 4);
             goodSentence("(up=1" + " or up=1".repeat(18) + ")", 20);
@@ -428,6 +443,13 @@ public final class EdgesOfTextsTest {
             fault(filled("downs 2 2;?", 920), 10, 1);
             fault(filled("downs 2 2", 899) + "?;", 899, 1);
             fault(filled("downs 2 2", 900) + "?;", 900, 1);
+            // what begins there is no more looked at
+            fault(filled("downs 2", 900) + "10;", 900, 1);
+            fault(filled("downs 2 2;wall 1 1 1;wall 1", 900) + "1 1;", 900, 1);
+            bookFault(filled("hour", 400) + "61;", 400, 1);
+            bookFault(filled("", 400) + "z rests;", 400, 1);
+            bookFault("hour 1;".repeat(40) + " ".repeat(120) + "hour 1;", 400, 1);
+            sentenceFault(filled("has", 200) + "z", 200, 1);
             bookFault(filled("hour 1;", 400) + ";", 400, 1);
             bookFault(filled("hour 61;", 420), 5, 2);
             sentenceFault(filled("spent", 200) + ";", 200, 1);
@@ -467,6 +489,9 @@ public final class EdgesOfTextsTest {
             bookFault("a says z east;", 7, 3);
             bookFault("a says a east;", 7, 3);
             bookFault("a says p east;", 7, 3);
+            sentenceFault("has", 3, 1);
+            sentenceFault("by", 2, 1);
+            sentenceFault("(by )", 4, 1);
             sentenceFault("has z", 4, 3);
             sentenceFault("has a", 4, 3);
             sentenceFault("has f", 4, 3);

@@ -60,6 +60,13 @@ public final class EdgesOfWaysTest {
             // one in the row, and one in the cell
             CartTurns y = Check.on("downs 4 2;person a 0 0 0 9;person b 1 0 0 9;figure one 0 1;point p 2 0 0;point q 1 0 0;");
             dueWay(y, 0, 0, 1, 0, 0, 3);
+            dueWay(y, 1, 0, 0);
+            CartTurns z = Check.on("downs 4 2;person b 1 0 0 9;person a 0 0 0 9;figure one 0 1;point p 2 0 0;point q 1 0 0;");
+            dueWay(z, 1, 0, 1, 0, 0, 3);
+            Check.due("the first one is in the way, too", z.way(1, 1), -1);
+            CartTurns corner = Check.on("downs 3 2;wall 0 0 1;person a 1 0 0 9;person b 1 1 0 9;figure one 0 1;point p 0 0 0;point q 0 1 0;");
+            Check.due("a wall in the first cell", corner.way(0, 0), -1);
+            Check.due("behind it", corner.way(0, 1), -1);
             Check.due("b stays there", y.way(0, 1), -1);
             Check.due("b is not gone", y.person(1, 0), 1);
         });
@@ -121,6 +128,9 @@ public final class EdgesOfWaysTest {
             dueWay(z, 0, 0, 4);
             dueWay(z, 0, 1, 8);
             dueWay(z, 0, 2, 0);
+            // where nothing is on the way, no SIDE is barred
+            CartTurns shut = Check.on("downs 2 2;wall 0 1 1;person b 1 0 0 1;person a 1 1 0 9;figure f 1 0;point p 1 1 2;");
+            dueWay(shut, 1, 0, 0, 0);
             // at the rim the first SIDE can't be
             CartTurns w = Check.on("downs 5 5;person a 4 4 0 9;figure f 1 1;point p 4 4 2;");
             dueWay(w, 0, 0, 2, 0);
@@ -198,6 +208,12 @@ public final class EdgesOfWaysTest {
     private static void sees() {
         Edge.of("in how many cells he can be behind any FIGURES likewise (his own one, too).", () -> {
             Check.due("no FIGURES", Check.on("person a 0 0 0 1;").sees(0), 1);
+            for (int up = 1; up < 4; up++) {
+                Check.due("with UP " + up, Check.on("person a 0 0 " + up + " 1;").sees(0), 1);
+                Check.due("by fours", Check.on("downs 2 2;person a 0 0 " + up + " 1;figure f 4 1;").sees(0), 4);
+            }
+            Check.due("the first one is in the way", Check.on("downs 2 2;person b 1 1 0 1;person a 0 0 0 1;figure f 3 1;").sees(1), 3);
+            Check.due("a wall in the first cell", Check.on("downs 2 2;wall 0 0 1;person a 1 1 0 1;figure f 3 1;").sees(0), 3);
             Check.due("only turning", Check.on("person a 0 0 0 1;figure f 1 0;").sees(0), 1);
             Check.due("shut in", Check.on("person a 0 0 0 1;figure f 1 1;wall 1 0 1;wall 0 1 1;").sees(0), 1);
             Check.due("shut in by others", Check.on("person a 0 0 0 1;figure f 1 1;person b 1 0 0 1;person c 0 1 0 1;").sees(0), 1);
@@ -342,6 +358,8 @@ public final class EdgesOfWaysTest {
             dueTracks(x, 4, 0, 0, 0, 0);
             Check.due("tracksAt(0)", x.tracksAt(0), 12);
             Check.due("tracksAt(1)", x.tracksAt(1), -1);
+            dueTracks(x, 1, 0, 0, 0, 2);
+            Check.due("one way is above 0", x.tracksAt(0), 1);
         });
     }
 
@@ -365,6 +383,8 @@ public final class EdgesOfWaysTest {
             dueTracks(x, 0, 0, 0, 8, 8);
             dueTracks(x, -1, 0, 0);
             Check.due("ahead of any above 0", x.tells(), -1);
+            dueTracks(x, 1, 0, 0, 0, 2);
+            Check.due("one way is above 0", x.tells(), 0);
             dueTracks(x, 4, 0, 0, 1, 0, 1, 0);
             Check.due("tells()", x.tells(), 1);
             dueTracks(x, 0, 0, 0, 0, 0, 8, 8);
